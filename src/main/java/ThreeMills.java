@@ -334,12 +334,14 @@ public final class ThreeMills {
             add(BOOL, NONE, NONE, 1);
         }
 
-        int pair(int left, int right) {
-            return built(PAIR, left, right);
-        }
-
-        int arrow(int left, int right) {
-            return built(ARROW, left, right);
+        /** A pair or an arrow: the one that is there already, if it was built before. */
+        int build(int kind, int left, int right) {
+            for (int type = made - 1; type > BOOL; type--) {
+                if (at(lefts, type) == left && at(rights, type) == right && at(kinds, type) == kind) {
+                    return type;
+                }
+            }
+            return add(kind, left, right, 1 + size(left) + size(right));
         }
 
         int kind(int type) {
@@ -403,15 +405,6 @@ public final class ThreeMills {
                 ink.letter('-');
             }
             ink.letter(sign);
-        }
-
-        private int built(int kind, int left, int right) {
-            for (int type = made - 1; type > BOOL; type--) {
-                if (at(lefts, type) == left && at(rights, type) == right && at(kinds, type) == kind) {
-                    return type;
-                }
-            }
-            return add(kind, left, right, 1 + size(left) + size(right));
         }
 
         private int add(int kind, int left, int right, int size) {
@@ -612,7 +605,7 @@ public final class ThreeMills {
         int freeIndex(int k, int v) {
             int count = captures(k, false);
             for (int i = 0; i < count; i++) {
-                if (capture(k, i, false) == v) {
+                if (at(free, k * VARIABLES + i) == v) {
                     return i + 1;
                 }
             }
@@ -838,7 +831,7 @@ public final class ThreeMills {
         }
     }
 
-    /** Cuts a program's text into tokens, one at a time. A sign's kind is its own byte. */
+    /** Cuts a program's text into tokens and goes along them. A sign's kind is its own byte. */
     private static final class Scanner {
         static final int END = 0;
         static final int STRANGE = 1;
@@ -860,24 +853,42 @@ public final class ThreeMills {
         static final int BOOL = 21;
 
         private Program program;
+        private final int[] kinds;
+        private final int[] starts;
+        private final int[] ends;
+        private int found;
+        private int current;
         private int kind;
         private int start;
         private int end;
-        private int value;
 
         Scanner(Program any) {
             program = any;
+            kinds = new int[TAPE_ROOM + 1];
+            starts = new int[TAPE_ROOM + 1];
+            ends = new int[TAPE_ROOM + 1];
+            found = 0;
+            current = 0;
             kind = END;
             start = 0;
             end = 0;
-            value = 0;
         }
 
+        /** Finds all tokens and stands at the first; behind the last one stands the text's end. */
         void open(Program fresh) {
             program = fresh;
-            kind = END;
-            start = 0;
+            found = 0;
             end = 0;
+            kind = STRANGE;
+            for (int i = 0; i <= TAPE_ROOM && kind != END; i++) {
+                scan();
+                put(kinds, found, kind);
+                put(starts, found, start);
+                put(ends, found, end);
+                found++;
+            }
+            kind = STRANGE;
+            current = NONE;
             advance();
         }
 
@@ -900,13 +911,23 @@ public final class ThreeMills {
 
         /** Of a number of at most nine digits. */
         int value() {
+            int value = 0;
+            for (int i = start; i < end; i++) {
+                value = value * 10 + program.letter(i) - '0';
+            }
             return value;
         }
 
         void advance() {
-            if (kind == STOPPED) {
-                return;
+            if (kind != STOPPED && current < found - 1) {
+                current++;
+                kind = at(kinds, current);
+                start = at(starts, current);
+                end = at(ends, current);
             }
+        }
+
+        private void scan() {
             int i = end;
             while (i < program.length() && isBlank(program.letter(i))) {
                 i++;
@@ -936,9 +957,7 @@ public final class ThreeMills {
 
         private void scanNumber() {
             int i = start;
-            value = 0;
             while (i < program.length() && isDigit(program.letter(i))) {
-                value = value * 10 + program.letter(i) - '0';
                 i++;
             }
             end = i;
@@ -977,7 +996,8 @@ public final class ThreeMills {
                 case 2:
                     return spells("in") ? IN : spells("if") ? IF : NAME;
                 case 3:
-                    return wordOfThree();
+                    return spells("let") ? LET : spells("rec") ? REC : spells("fst") ? FST
+                        : spells("snd") ? SND : spells("int") ? INT : NAME;
                 case 4:
                     return spells("then") ? THEN : spells("else") ? ELSE
                         : spells("true") ? TRUE : spells("bool") ? BOOL : NAME;
@@ -986,22 +1006,6 @@ public final class ThreeMills {
                 default:
                     return NAME;
             }
-        }
-
-        private int wordOfThree() {
-            if (spells("let")) {
-                return LET;
-            }
-            if (spells("rec")) {
-                return REC;
-            }
-            if (spells("fst")) {
-                return FST;
-            }
-            if (spells("snd")) {
-                return SND;
-            }
-            return spells("int") ? INT : NAME;
         }
 
         private boolean spells(String word) {
@@ -1157,8 +1161,8 @@ public final class ThreeMills {
             int x = bindParameter(k, depth);
             accept(')');
             accept(':');
-            int result = type(depth + 1);
-            bindings.setType(v, program.types().arrow(bindings.typeOf(x), result));
+            int result = typeText(depth + 1);
+            bindings.setType(v, program.types().build(Types.ARROW, bindings.typeOf(x), result));
             accept('=');
             show(v);
             int body = body(k, x, depth);
@@ -1185,7 +1189,7 @@ public final class ThreeMills {
             int x = bind(k);
             bindings.setParameter(k, x);
             accept(':');
-            bindings.setType(x, type(depth + 1));
+            bindings.setType(x, typeText(depth + 1));
             return x;
         }
 
@@ -1338,7 +1342,7 @@ public final class ThreeMills {
             return node;
         }
 
-        private int type(int depth) {
+        private int typeText(int depth) {
             if (!startsType()) {
                 return refuse(MISPLACED);
             }
@@ -1348,13 +1352,13 @@ public final class ThreeMills {
             int side = typePart(depth);
             if (scanner.kind() == '*') {
                 scanner.advance();
-                side = program.types().pair(side, typePart(depth));
+                side = program.types().build(Types.PAIR, side, typePart(depth));
             }
             if (scanner.kind() != Scanner.ARROW) {
                 return side;
             }
             scanner.advance();
-            return program.types().arrow(side, type(depth + 1));
+            return program.types().build(Types.ARROW, side, typeText(depth + 1));
         }
 
         private boolean startsType() {
@@ -1372,7 +1376,7 @@ public final class ThreeMills {
                     return Types.BOOL;
                 case '(':
                     scanner.advance();
-                    int inner = type(depth + 1);
+                    int inner = typeText(depth + 1);
                     accept(')');
                     return inner;
                 default:
@@ -1563,7 +1567,7 @@ public final class ThreeMills {
             if (right == NONE) {
                 return NONE;
             }
-            return ifSmall(types.pair(left, right), program.place(node));
+            return ifSmall(types.build(Types.PAIR, left, right), program.place(node));
         }
 
         private int ifSmall(int type, int place) {
@@ -1628,7 +1632,7 @@ public final class ThreeMills {
             if (comes == NONE) {
                 return NONE;
             }
-            int arrow = types.arrow(bindings.typeOf(bindings.parameter(k)), comes);
+            int arrow = types.build(Types.ARROW, bindings.typeOf(bindings.parameter(k)), comes);
             bindings.setArrow(k, arrow);
             return ifSmall(arrow, program.place(node));
         }
@@ -1735,10 +1739,22 @@ public final class ThreeMills {
             types = told.types();
             bindings = told.bindings();
             mill = byMill;
-            if (mill == TAGS) {
-                tellTypes();
-            } else {
-                tellFunctions();
+            for (int type = 0; mill == TAGS && type < types.numbered(); type++) {
+                typeHead(type);
+                for (int k = 0; k < bindings.functions(); k++) {
+                    if (types.numberOf(bindings.arrow(k)) == type) {
+                        caseHead(k);
+                        teller = k;
+                        expression(bindings.body(k), 1);
+                    }
+                }
+                ink.letter(10);
+            }
+            for (int k = 0; mill != TAGS && k < bindings.functions(); k++) {
+                functionHead(k);
+                teller = k;
+                expression(bindings.body(k), 1);
+                ink.letter(10);
             }
             teller = NONE;
             ink.word("main=");
@@ -1746,60 +1762,36 @@ public final class ThreeMills {
             ink.letter(10);
         }
 
-        private void tellFunctions() {
-            for (int k = 0; k < bindings.functions(); k++) {
-                ink.letter('f');
-                ink.number(k);
-                ink.letter('(');
-                if (mill == RECORDS) {
-                    ink.word("e,");
-                } else {
-                    extra(k, false);
-                    ink.word(bindings.captures(k, true) > 0 ? "," : "");
-                }
-                variable(bindings.parameter(k));
-                ink.word(")=");
-                body(k);
-                ink.letter(10);
+        private void functionHead(int k) {
+            ink.letter('f');
+            ink.number(k);
+            ink.letter('(');
+            if (mill == RECORDS) {
+                ink.word("e,");
+            } else {
+                extra(k, true);
             }
+            variable(bindings.parameter(k));
+            ink.word(")=");
         }
 
-        private void tellTypes() {
-            for (int type = 0; type < types.numbered(); type++) {
-                ink.letter('a');
-                ink.number(type);
-                ink.word("(t,x)=");
-                tellParts(type);
-                ink.letter(10);
-            }
+        private void typeHead(int type) {
+            ink.letter('a');
+            ink.number(type);
+            ink.word("(t,x)=");
         }
 
-        private void tellParts(int type) {
-            for (int k = 0; k < bindings.functions(); k++) {
-                if (types.numberOf(bindings.arrow(k)) == type) {
-                    ink.word(bindings.order(k) > 1 ? "|" : "");
-                    tag(k);
-                    variable(bindings.parameter(k));
-                    ink.letter(':');
-                    body(k);
-                }
-            }
-        }
-
-        /** The tag with what is free in the function by its names, as its own part has it. */
-        private void tag(int k) {
-            ink.letter('<');
+        /** The tag has what is free in the function by its names, as its own part has it. */
+        private void caseHead(int k) {
+            ink.word(bindings.order(k) > 1 ? "|<" : "<");
             ink.number(k);
             for (int i = 0; i < bindings.captures(k, false); i++) {
                 ink.letter(',');
                 variable(bindings.capture(k, i, false));
             }
             ink.letter('>');
-        }
-
-        private void body(int k) {
-            teller = k;
-            expression(bindings.body(k), 1);
+            variable(bindings.parameter(k));
+            ink.letter(':');
         }
 
         private void variable(int v) {
@@ -1822,15 +1814,20 @@ public final class ThreeMills {
                 return;
             }
             int first = program.first(node);
+            int number = program.number(node);
             switch (program.kind(node)) {
                 case Program.NUMBER:
-                    ink.number(program.number(node));
+                    ink.number(number);
                     break;
                 case Program.TRUTH:
-                    ink.word(program.number(node) == 1 ? "true" : "false");
+                    ink.word(number == 1 ? "true" : "false");
                     break;
                 case Program.NAME:
-                    asked(program.number(node));
+                    if (mill == LIFTED && bindings.knownAs(number) != NONE) {
+                        value(bindings.knownAs(number));
+                    } else {
+                        asThere(number);
+                    }
                     break;
                 case Program.SIGNS:
                     signs(node, depth);
@@ -1906,15 +1903,6 @@ public final class ThreeMills {
                 ink.word(" in ");
             }
             expression(program.next(program.first(node)), depth + 1);
-        }
-
-        private void asked(int v) {
-            int k = mill == LIFTED ? bindings.knownAs(v) : NONE;
-            if (k != NONE) {
-                value(k);
-            } else {
-                asThere(v);
-            }
         }
 
         /** A variable as it is told within the part that is being told. */
