@@ -625,17 +625,6 @@ public final class ThreeMills {
                 k = at(parents, k);
             }
         }
-
-        boolean isBoundWithin(int v, int k) {
-            int home = at(owners, v);
-            for (int i = 0; i < FUNCTIONS && home != NONE; i++) {
-                if (home == k) {
-                    return true;
-                }
-                home = at(parents, home);
-            }
-            return false;
-        }
     }
 
     /** One text with its tree: nodes have a first part, and each part has the next one. */
@@ -1642,65 +1631,47 @@ public final class ThreeMills {
     private static final class Needs {
         private static final int TOO_MANY = 10;
         private static final int MOST = 12;
-        private static final int WIDTH = Bindings.VARIABLES;
-        private static final int ROUNDS = Bindings.FUNCTIONS * Bindings.VARIABLES + 1;
 
-        /** A row for each function: 1 for each variable that it needs. */
+        /** 1 for each variable that the function in hand needs. */
         private final int[] marks;
 
         Needs() {
-            marks = new int[Bindings.FUNCTIONS * WIDTH];
+            marks = new int[Bindings.VARIABLES];
         }
 
+        /** In order: a function that is known to another by a free variable stands ahead of it. */
         void find(Program program) {
             Bindings bindings = program.bindings();
-            Arrays.fill(marks, 0);
-            boolean more = true;
-            for (int round = 0; round < ROUNDS && more; round++) {
-                more = false;
-                for (int k = 0; k < bindings.functions(); k++) {
-                    more = grow(bindings, k) || more;
-                }
-            }
             for (int k = 0; k < bindings.functions(); k++) {
+                Arrays.fill(marks, 0);
+                mark(bindings, k);
                 keep(bindings, k);
             }
             refuseTooMany(program, bindings);
         }
 
-        private boolean grow(Bindings bindings, int k) {
-            boolean more = false;
+        private void mark(Bindings bindings, int k) {
             for (int i = 0; i < bindings.captures(k, false); i++) {
                 int v = bindings.capture(k, i, false);
                 int j = bindings.knownAs(v);
                 if (j == NONE) {
-                    more = mark(k, v) || more;
+                    put(marks, v, 1);
                 } else {
-                    more = growBy(bindings, k, j) || more;
+                    markNeedsOf(bindings, j);
                 }
             }
-            return more;
         }
 
-        private boolean growBy(Bindings bindings, int k, int j) {
-            boolean more = false;
-            for (int v = 0; v < bindings.variables(); v++) {
-                if (at(marks, j * WIDTH + v) == 1 && !bindings.isBoundWithin(v, k)) {
-                    more = mark(k, v) || more;
-                }
+        /** None of them is bound in the function in hand: they are seen where that one is known. */
+        private void markNeedsOf(Bindings bindings, int j) {
+            for (int i = 0; i < bindings.captures(j, true); i++) {
+                put(marks, bindings.capture(j, i, true), 1);
             }
-            return more;
-        }
-
-        private boolean mark(int k, int v) {
-            boolean isNew = at(marks, k * WIDTH + v) == 0;
-            put(marks, k * WIDTH + v, 1);
-            return isNew;
         }
 
         private void keep(Bindings bindings, int k) {
             for (int v = 0; v < bindings.variables(); v++) {
-                if (at(marks, k * WIDTH + v) == 1) {
+                if (at(marks, v) == 1) {
                     bindings.addExtra(k, v);
                 }
             }

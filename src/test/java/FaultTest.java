@@ -5,6 +5,7 @@ public final class FaultTest {
 
     public static void main(String[] args) {
         misplaced();
+        longest();
         tooLong();
         tooDeep();
         tooMany();
@@ -77,6 +78,16 @@ public final class FaultTest {
         due("1- >2", "1@3");
         due("1\0", "1@1");
         due("\\x:int- >int.x", "1@6");
+    }
+
+    /** Each byte a TOKEN of its own. */
+    private static void longest() {
+        due("1+".repeat(1500), "1@3000");
+        due("1+".repeat(1499) + "1)", "1@2999");
+        due("1+".repeat(1499) + "1A", "1@2999");
+        due("1+".repeat(1499) + "1x", "3@2999");
+        due(" ".repeat(2999) + "1", "0@-1");
+        due(" ".repeat(2999) + "x", "3@2999");
     }
 
     private static void tooLong() {

@@ -10,6 +10,7 @@ public final class RunTest {
         answers();
         reckoning();
         closures();
+        largeTexts();
         costs();
         limits();
         openCalls();
@@ -23,8 +24,9 @@ public final class RunTest {
     }
 
     private static void answer(String text, String want) {
-        ThreeMills x = Calls.loaded(text);
         for (int mill = 0; mill < 3; mill++) {
+            // A new object each: nothing that another mill has left may help.
+            ThreeMills x = Calls.loaded(text);
             Calls.due("run " + mill + " of " + text, x.run(mill, 20000), 0);
             Calls.due("answer " + mill + " of " + text, Calls.answer(x), want);
         }
@@ -70,6 +72,30 @@ public final class RunTest {
             + "if n=0 then true else odd(n-1) in (even 10,even 7)", "(true,false)");
         answer("let f=\\x:int.\\x:int.x in f 1 2", "2");
         answer("let y=7 in rec f(x:int):int->int=\\z:int.if x=0 then z+y else f(x-1)(z+x) in f 3 0", "13");
+    }
+
+    /** As deep and as long as texts can be. */
+    private static void largeTexts() {
+        String deep = "1";
+        for (int i = 0; i < 8; i++) {
+            deep = "1+f (" + deep + ")+1";
+        }
+        answer("let f=\\x:int.x+1 in " + deep, "25");
+        answer("let f=\\x:int.x in f(f1+f1)" + "+f(f1+f1)".repeat(329), "660");
+        answer("1" + "+1".repeat(1499) + " ", "1500");
+        StringBuilder pairs = new StringBuilder("1");
+        for (int i = 0; i < 9; i++) {
+            pairs.insert(0, "(").append(i % 2 == 0 ? ",true)" : ",0)");
+        }
+        answer(pairs.toString(), pairs.toString());
+        String six = "let a=(999999999,0-999999999) in let a=(a,a) in let a=(a,a) in let a=(a,a) in let a=(a,a) in ";
+        ThreeMills x = Calls.loaded(six + "(a,a)");
+        x.run(1, 1);
+        String want = "(999999999,-999999999)";
+        for (int i = 0; i < 5; i++) {
+            want = "(" + want + "," + want + ")";
+        }
+        Calls.due("127 parts", Calls.answer(x), want);
     }
 
     private static void cost(String text, int mill, String want) {
