@@ -137,6 +137,22 @@ final class Calls {
         return needs.toString();
     }
 
+    /** All that an object tells without a change: two states are the same if nothing changed between. */
+    static String state(ThreeMills mills) {
+        StringBuilder state = new StringBuilder();
+        for (int what = 0; what <= 6; what++) {
+            state.append(mills.count(what)).append(' ');
+        }
+        state.append(mills.fault(0)).append('@').append(mills.fault(1)).append(" costs ").append(costs(mills));
+        for (int k = 0; k < mills.count(1); k++) {
+            for (int what = 0; what <= 5; what++) {
+                state.append(what == 0 ? " f" : ",").append(mills.function(k, what));
+            }
+            state.append(' ').append(needs(mills, k, false)).append(';').append(needs(mills, k, true));
+        }
+        return state.append(" OUT ").append(out(mills)).toString();
+    }
+
     static String fault(String text) {
         ThreeMills mills = new ThreeMills();
         int fault = program(mills, text);
