@@ -222,6 +222,7 @@ public final class FunctionEdgeTest {
         Calls.due("not the known one itself", extra("let f=\\x:int.x in \\y:int.f y", 1), "");
         Calls.due("a FUNCTION that is not KNOWN itself", extra("let f=(\\x:int.x) in \\y:int.f y", 1), "0");
         Calls.due("through two", extra(lets + "let f=\\x:int.b in let g=\\x:int.f x in \\y:int.g y", 2), "1");
+        Calls.due("all of them through two", extra(lets + "let f=\\x:int.a+b in let g=\\x:int.f x in \\y:int.g y", 2), "0,1");
         Calls.due("not its parameter", extra("\\x:int.let f=\\y:int.x in f x", 0), "");
         Calls.due("of f within it", extra("\\x:int.let f=\\y:int.x in f x", 1), "0");
         String odd = lets + "rec even(n:int):int=let odd=\\m:int.even(m-a) in if n<b then n else odd(n-1) in 1";

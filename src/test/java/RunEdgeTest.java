@@ -22,6 +22,10 @@ public final class RunEdgeTest {
         valuesOfEachMillsOwn();
         valuesOfAllRuns();
         lastValueOfAllRuns();
+        largestValues();
+        mostThatWaits();
+        hundredVariables();
+        needsThroughOthers();
         pairsWhenBothAreThere();
         endedByWhatComesFirst();
         fromTheLeft();
@@ -293,6 +297,44 @@ public final class RunEdgeTest {
         Calls.program(y, "(1,2)");
         Calls.due("the last of all", y.run(2, 1) + " " + Calls.answer(y), "0 (1,2)");
         Calls.due("beyond it", y.run(2, 1) + " " + Calls.answer(y), "3 none");
+    }
+
+    private static void answers(String text, String want) {
+        for (int mill = 0; mill < 3; mill++) {
+            ThreeMills x = Calls.loaded(text);
+            Calls.due("run by " + mill + " of " + text, x.run(mill, 20000) + " " + Calls.answer(x), "0 " + want);
+        }
+    }
+
+    /** 1984 VALUES with twelve FREE each, and a pair behind them all. */
+    private static void largestValues() {
+        String leaf = "let q=\\m:int.a b+c d+e f+g h+i j+k l in 1";
+        answers("rec a(b:int):int=rec c(d:int):int=rec e(f:int):int=rec g(h:int):int=rec i(j:int):int=rec k(l:int):int="
+            + "if l<1 then " + leaf + " else k(l-1)+k(l-1) in k 10+k 9+k 8+k 7+k 6 in i 1 in g 1 in e 1 in c 1 in "
+            + "a 1+snd (7,8)", "1992");
+    }
+
+    /** Forty CALLS open, each with as much begun as ten EXPRS within each other can have. */
+    private static void mostThatWaits() {
+        String ahead = "1+h (x,".repeat(5);
+        answers("let h=\\p:int*int.fst p+snd p in rec f(x:int):int=if x<1 then 0 else " + ahead + "1+f(x-1)"
+            + ")".repeat(5) + " in f 39", "" + (39 * 6 + 5 * 39 * 40 / 2));
+    }
+
+    /** The last VARIABLE keeps what it has while others are called. */
+    private static void hundredVariables() {
+        String lets = "(let a=1 in a)+".repeat(97);
+        answers("let f=\\x:int.x+1 in " + lets + "(let z=5 in f z+f 1+z+f z)", "" + (97 + 6 + 2 + 5 + 6));
+        answers("let f=\\x:int.x+1 in " + lets + "(\\z:int.f z+f 1+z+f z) 5", "" + (97 + 6 + 2 + 5 + 6));
+        answers(lets + "1+(rec f(x:int):int=if x<1 then 0 else f(x-1)+x in f 3+(let z=5 in f z+z))", "" + (98 + 6 + 15 + 5));
+    }
+
+    /** What a FUNCTION needs only through another one. */
+    private static void needsThroughOthers() {
+        String lets = "let a=1 in let b=2 in let c=4 in ";
+        answers(lets + "let f=\\x:int.a+b+c+x in let g=\\x:int.f x in let h=\\x:int.g x in (h 8,g 16)", "(15,23)");
+        answers(lets + "let f=\\x:int.a+b+c+x in let g=\\x:int.f x in let h=\\x:int.g x in let k=h in k 8", "15");
+        answers(lets + "rec f(x:int):int=let g=\\y:int.f(y-1)+b in if x<1 then a+c else g x in f 3", "11");
     }
 
     private static String costs(String text, int mill, int limit) {
