@@ -14,6 +14,9 @@ public final class ChanceTest {
         for (int i = 0; i < objects && Calls.wrong() < 20; i++) {
             oneObject(programs);
         }
+        for (int fault = 0; fault <= 10 && objects >= OBJECTS; fault++) {
+            Calls.due("no program has fault " + fault, FAULTS[fault] == 0 ? 1 : 0, 0);
+        }
         System.out.println("faults " + java.util.Arrays.toString(FAULTS) + " ends " + java.util.Arrays.toString(ENDS));
         Calls.end("ChanceTest");
     }
@@ -29,6 +32,9 @@ public final class ChanceTest {
             }
             if (i == 2 || i == 4) {
                 text = programs.retyped(text);
+            }
+            if (i == 5) {
+                text = programs.limit() % 2 == 0 ? programs.large() : programs.needy();
             }
             if (text.length() > 2980) {
                 continue;

@@ -31,6 +31,76 @@ final class Programs {
         return "rec loop(n:int):int=if n<1 then " + often + " else loop(n-1)+loop(n-1) in loop " + times;
     }
 
+    /** A program whose types come near 200 parts, or beyond: each name's is made from those ahead of it. */
+    String large() {
+        String[] names = {"a", "b", "c", "d", "f", "g", "x"};
+        StringBuilder text = new StringBuilder();
+        if (chance(40)) {
+            text.append("rec h(y:").append(largeType(1 + random.nextInt(60))).append("):")
+                .append(largeType(1 + random.nextInt(60))).append("=").append(chance(60) ? "h y" : "zz").append(" in ");
+        }
+        text.append("let a=").append(chance(50) ? "1" : "\\y:" + largeType(1 + random.nextInt(110)) + ".y");
+        int last = 2 + random.nextInt(names.length - 2);
+        for (int i = 1; i <= last; i++) {
+            String one = names[i - 1];
+            String other = names[chance(70) ? i - 1 : random.nextInt(i)];
+            String[] ways = {"(" + one + "," + other + ")", "(" + one + "," + other + ")",
+                "((" + other + ",1)," + one + ")", "\\y:int." + one, "if true then " + one + " else " + other};
+            text.append(" in let ").append(names[i]).append("=").append(ways[random.nextInt(chance(85) ? 4 : 5)]);
+        }
+        String end = names[last];
+        String[] ends = {end, "fst " + end, end + " 1", "(" + end + ",a)", "\\y:int." + end, "zz"};
+        return text.append(" in ").append(ends[random.nextInt(ends.length)]).toString();
+    }
+
+    /** A type of some leaves, written with few levels: three parts stand in one. */
+    private String largeType(int leaves) {
+        if (leaves <= 1) {
+            return chance(70) ? "int" : "bool";
+        }
+        if (leaves == 2) {
+            return largeType(1) + (chance(50) ? "*" : "->") + largeType(1);
+        }
+        int third = leaves / 3;
+        return largePart(leaves - 2 * third) + "*" + largePart(third) + "->" + largePart(third);
+    }
+
+    private String largePart(int leaves) {
+        return leaves <= 1 ? largeType(leaves) : "(" + largeType(leaves) + ")";
+    }
+
+    /** A tower of bindings, most of them recs, whose innermost EXPR asks many of them. */
+    String needy() {
+        int levels = 6 + random.nextInt(4);
+        StringBuilder ahead = new StringBuilder();
+        StringBuilder behind = new StringBuilder();
+        List<String> asks = new ArrayList<>();
+        for (int i = 0; i < levels; i++) {
+            char letter = (char) ('a' + i);
+            int kind = random.nextInt(100);
+            if (kind < 85) {
+                ahead.append("rec f").append(letter).append("(x").append(letter).append(":int):int=");
+                behind.insert(0, chance(70) ? " in f" + letter + " 1" : " in " + i);
+                asks.add("f" + letter + " 0");
+                asks.add("x" + letter);
+            } else if (kind < 93) {
+                ahead.append("let x").append(letter).append("=").append(i).append(" in ");
+                asks.add("x" + letter);
+            } else {
+                ahead.append("let f").append(letter).append("=\\y:int.y");
+                ahead.append(asks.isEmpty() ? "" : "+" + asks.get(random.nextInt(asks.size()))).append(" in ");
+                asks.add("f" + letter + " 0");
+            }
+        }
+        StringBuilder sum = new StringBuilder(chance(20) ? "(\\z:int.z) 1" : "1");
+        java.util.Collections.shuffle(asks, random);
+        int drop = random.nextInt(6);
+        for (int i = drop; i < asks.size(); i++) {
+            sum.append("+").append(asks.get(i));
+        }
+        return ahead.append(sum).append(behind).toString();
+    }
+
     private boolean chance(int of100) {
         return random.nextInt(100) < of100;
     }
